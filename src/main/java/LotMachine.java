@@ -453,16 +453,16 @@ public final class LotMachine {
         }
 
         int endOfRun(int from, int low, int high) {
-            int end = Math.max(from, 0);
-            while (end < used && bytes[end] >= low && bytes[end] <= high) {
+            int end = from;
+            while (end >= 0 && end < used && bytes[end] >= low && bytes[end] <= high) {
                 end++;
             }
             return end;
         }
 
         int endOfBlanks(int from) {
-            int end = Math.max(from, 0);
-            while (end < used && (bytes[end] == ' ' || bytes[end] == '\n')) {
+            int end = from;
+            while (end >= 0 && end < used && (bytes[end] == ' ' || bytes[end] == '\n')) {
                 end++;
             }
             return end;
@@ -1056,7 +1056,6 @@ public final class LotMachine {
             int convicting = convicting();
             boolean tiesConvict = laws.answer(LawText.TIE) == 1;
             boolean convicted = 2 * convicting > all || tiesConvict && 2 * convicting == all;
-            forgetVerdict();
             verdict = convicted ? 1 : 0;
             if (convicted) {
                 debtor = accused;

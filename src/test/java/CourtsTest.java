@@ -389,6 +389,8 @@ public final class CourtsTest {
             CHECK.due("who owes", x.court(0, 13), tie == 1 ? ACCUSED : -1);
             CHECK.due("pay in all", x.count(8), 0);
             CHECK.due("closed in all", x.count(7), 1);
+            x.suit(0, 0, ACCUSER, ACCUSED, 10);
+            CHECK.due("no witness is heard in a new suit", x.speak(0, 0, 1), 9);
         }
     }
 

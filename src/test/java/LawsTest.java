@@ -8,6 +8,7 @@ public final class LawsTest {
         soundTexts();
         syntaxFaults();
         rangeAndTwiceFaults();
+        textsCutShort();
         faultOfTheLatestLaws();
         daysOfTexts();
         fullBook();
@@ -159,6 +160,38 @@ public final class LawsTest {
         faulty("suit 3 water 1 fine 1; suit 4 water 1 fine 1; suit 3", 3, 51);
         faulty("age 5 age 6;", 1, 6);
         faulty("suit 3 water 1 fine 1; suit ; suit 3", 1, 28);
+    }
+
+    private static void cut(String text, int n, int kind, int place) {
+        LotMachine x = new LotMachine();
+        Check.write(x, text);
+        CHECK.due("end(" + n + ") of [" + text + "]", x.end(n), n);
+        CHECK.due("laws(0) of [" + text + "] cut to " + n, x.laws(0), kind == 0 ? 0 : -1);
+        CHECK.due("fault(0) of [" + text + "] cut to " + n, x.fault(0), kind);
+        CHECK.due("fault(1) of [" + text + "] cut to " + n, x.fault(1), place);
+    }
+
+    /** What stood behind the cut is no part of the text, though its bytes may still be there. */
+    private static void textsCutShort() {
+        cut("age 1234567;", 9, 1, 9);
+        cut("agepay 5;", 3, 1, 3);
+        cut("age 5; pay", 6, 0, -1);
+        cut("age 5;?", 6, 0, -1);
+        cut("age 5;", 5, 1, 5);
+        cut("age 5   ;", 7, 1, 7);
+        cut("tie acquit;", 7, 1, 4);
+        StringBuilder whole = new StringBuilder();
+        while (whole.length() < 995) {
+            whole.append(' ');
+        }
+        faulty(whole + "age 5", 1, 1000);
+        faulty(whole + "  age", 1, 1000);
+        LotMachine x = new LotMachine();
+        Check.write(x, "age 999");
+        x.end(5);
+        Check.write(x, "1;");
+        CHECK.due("a text written on behind a cut", x.laws(0), 0);
+        CHECK.due("law(0, 0)", x.law(0, 0), 91);
     }
 
     private static void faultOfTheLatestLaws() {
