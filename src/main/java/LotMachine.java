@@ -1010,7 +1010,7 @@ public final class LotMachine {
         void forgetVerdict() {
             verdict = NONE;
             debtor = NONE;
-            debt = 0;
+            debt = NONE;
         }
 
         int hearWords(int side, int minutes) {

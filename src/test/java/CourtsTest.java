@@ -152,7 +152,7 @@ public final class CourtsTest {
         CHECK.due("a full court", x.suit(0, 4, 0, 1, 30), 10);
         CHECK.due("with one that is open", x.suit(0, 4, 0, 1, 30), -4);
         CHECK.due("court(0, 2)", x.court(0, 2), 1);
-        court(x, "begun", 4, 0, 1, 30, 10, 10, 0, -1, 0, -1, -1, 0, -1);
+        court(x, "begun", 4, 0, 1, 30, 10, 10, 0, -1, 0, -1, -1, -1, -1);
     }
 
     private static void waterOfTheLaws() {
@@ -236,10 +236,10 @@ public final class CourtsTest {
         CHECK.due("citizen 150", x.disc(0, 150, 1), -4);
         CHECK.due("the last seat first", x.disc(0, 6, 1), 2);
         CHECK.due("told already", x.disc(0, 6, 0), -4);
-        court(x, "one disc", 0, 0, 1, 0, 10, 10, 1, -1, 0, -1, -1, 0);
+        court(x, "one disc", 0, 0, 1, 0, 10, 10, 1, -1, 0, -1, -1, -1);
         CHECK.due("the first", x.disc(0, 4, 0), 1);
         CHECK.due("the second", x.disc(0, 5, 1), 0);
-        court(x, "all discs", 0, 0, 1, 0, 10, 10, 3, 2, 0, -1, -1, 0);
+        court(x, "all discs", 0, 0, 1, 0, 10, 10, 3, 2, 0, -1, -1, -1);
     }
 
     private static void closing() {
@@ -292,7 +292,7 @@ public final class CourtsTest {
             CHECK.due(of, x.close(0), 0);
             CHECK.due(of + ": verdict", x.court(0, 12), 0);
             CHECK.due(of + ": who owes", x.court(0, 13), run[2] == 1 ? ACCUSER : -1);
-            CHECK.due(of + ": how much", x.court(0, 14), run[2] * 1000);
+            CHECK.due(of + ": how much", x.court(0, 14), run[2] == 1 ? 1000 : -1);
             CHECK.due(of + ": accuser owes", x.about(ACCUSER, 4), run[2] * 1000);
             CHECK.due(of + ": accused owes", x.about(ACCUSED, 4), 0);
         }
@@ -440,7 +440,7 @@ public final class CourtsTest {
         x.owe(ACCUSED, 999999991, 0);
         CHECK.due("one too much", x.close(0), -3);
         CHECK.due("it stays open", x.court(0, 2), 1);
-        court(x, "open still", 0, 0, 1, 10, 10, 10, 1, 1, 0, -1, -1, 0);
+        court(x, "open still", 0, 0, 1, 10, 10, 10, 1, 1, 0, -1, -1, -1);
         CHECK.due("owes as before", x.about(ACCUSED, 4), 1999999991);
         CHECK.due("no pay", x.count(8), 0);
         CHECK.due("none is closed", x.count(7), 0);
@@ -475,7 +475,7 @@ public final class CourtsTest {
         x.close(0);
         CHECK.due("begins", x.suit(0, 2, 2, 3, 11), 10);
         CHECK.due("court(0, 2)", x.court(0, 2), 1);
-        court(x, "second", 2, 2, 3, 11, 10, 10, 0, -1, 0, -1, -1, 0);
+        court(x, "second", 2, 2, 3, 11, 10, 10, 0, -1, 0, -1, -1, -1);
         CHECK.due("the accuser's first words again", x.speak(0, 1, 1), -4);
         CHECK.due("speak", x.speak(0, 0, 1), 9);
         x.disc(0, 4, 0);
