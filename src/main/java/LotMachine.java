@@ -1057,6 +1057,7 @@ public final class LotMachine {
             boolean tiesConvict = laws.answer(LawText.TIE) == 1;
             boolean convicted = 2 * convicting > all || tiesConvict && 2 * convicting == all;
             verdict = convicted ? 1 : 0;
+            debt = 0;
             if (convicted) {
                 debtor = accused;
                 debt = laws.answer(LawText.FINE + kind) + sum;

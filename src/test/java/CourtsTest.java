@@ -292,7 +292,7 @@ public final class CourtsTest {
             CHECK.due(of, x.close(0), 0);
             CHECK.due(of + ": verdict", x.court(0, 12), 0);
             CHECK.due(of + ": who owes", x.court(0, 13), run[2] == 1 ? ACCUSER : -1);
-            CHECK.due(of + ": how much", x.court(0, 14), run[2] == 1 ? 1000 : -1);
+            CHECK.due(of + ": how much", x.court(0, 14), run[2] == 1 ? 1000 : 0);
             CHECK.due(of + ": accuser owes", x.about(ACCUSER, 4), run[2] * 1000);
             CHECK.due(of + ": accused owes", x.about(ACCUSED, 4), 0);
         }
@@ -329,6 +329,7 @@ public final class CourtsTest {
         CHECK.due("the last", x.disc(0, 8, 0), 0);
         CHECK.due("a tie acquits", x.close(0), 0);
         CHECK.due("nobody owes", x.court(0, 13), -1);
+        CHECK.due("nothing is owed by a verdict that stands", x.court(0, 14), 0);
         CHECK.due("no pay", x.about(4, 9), 0);
         CHECK.due("pay", x.about(8, 9), 3);
         CHECK.due("pay in all", x.count(8), 12);
@@ -387,10 +388,12 @@ public final class CourtsTest {
             CHECK.due("none is wanting", x.court(0, 10), 0);
             CHECK.due("none of none is half", x.close(0), tie);
             CHECK.due("who owes", x.court(0, 13), tie == 1 ? ACCUSED : -1);
+            CHECK.due("how much", x.court(0, 14), tie == 1 ? 10 : 0);
             CHECK.due("pay in all", x.count(8), 0);
             CHECK.due("closed in all", x.count(7), 1);
             x.suit(0, 0, ACCUSER, ACCUSED, 10);
             CHECK.due("no witness is heard in a new suit", x.speak(0, 0, 1), 9);
+            CHECK.due("no verdict of a new suit, so no sum", x.court(0, 14), -1);
         }
     }
 
