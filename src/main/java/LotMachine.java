@@ -342,7 +342,7 @@ public final class LotMachine {
         suit.open = false;
         suitsClosed++;
         payDiscs(room, laws.values[LawText.PAY]);
-        if (debtor != null && suit.debt > 0) {
+        if (debtor != null) {
             addDebt(debtor, suit.debt);
         }
         return suit.verdict;
@@ -1057,13 +1057,20 @@ public final class LotMachine {
             boolean tiesConvict = laws.answer(LawText.TIE) == 1;
             boolean convicted = 2 * convicting > all || tiesConvict && 2 * convicting == all;
             verdict = convicted ? 1 : 0;
+            debtor = NONE;
             debt = 0;
             if (convicted) {
-                debtor = accused;
-                debt = laws.answer(LawText.FINE + kind) + sum;
+                charge(accused, laws.answer(LawText.FINE + kind) + sum);
             } else if (5 * convicting < all) {
-                debtor = accuser;
-                debt = laws.answer(LawText.FIFTH);
+                charge(accuser, laws.answer(LawText.FIFTH));
+            }
+        }
+
+        // Of nothing no debt comes to be, so one who would owe 0 doesn't owe.
+        private void charge(int party, int owed) {
+            if (owed > 0) {
+                debtor = party;
+                debt = owed;
             }
         }
 

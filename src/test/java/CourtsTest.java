@@ -17,6 +17,7 @@ public final class CourtsTest {
         discs();
         closing();
         convictedOwes();
+        nobodyOwesNothing();
         fifths();
         struckOut();
         struckOutBehindItsDisc();
@@ -276,9 +277,44 @@ public final class CourtsTest {
         x.suit(0, 0, ACCUSER, ACCUSED, 0);
         x.disc(0, 4, 1);
         CHECK.due("convicted without fine and sum", x.close(0), 1);
-        CHECK.due("the accused owes by it", x.court(0, 13), ACCUSED);
+        CHECK.due("nobody owes by it", x.court(0, 13), -1);
         CHECK.due("nothing", x.court(0, 14), 0);
         CHECK.due("accused owes as before", x.about(ACCUSED, 4), 1070);
+        x.suit(0, 0, ACCUSER, ACCUSED, 1);
+        x.disc(0, 4, 1);
+        x.close(0);
+        court(x, "a sum without fine", 0, 0, 1, 1, 10, 10, 1, 1, 0, 1, ACCUSED, 1);
+        x.suit(0, 3, ACCUSER, ACCUSED, 0);
+        x.disc(0, 4, 1);
+        x.close(0);
+        court(x, "a fine without sum", 3, 0, 1, 0, 1, 1, 1, 1, 0, 1, ACCUSED, 70);
+    }
+
+    /** A verdict by which 0 is owed names nobody, of whatever it was made, and is never too much. */
+    private static void nobodyOwesNothing() {
+        LotMachine x = withCourt(1);
+        Check.tell(x, "suit 3 water 1 fine 0; fifth 0; tie convict;", 0);
+        x.owe(ACCUSED, 1000000000, 0);
+        x.owe(ACCUSED, 1000000000, 0);
+        x.suit(0, 3, ACCUSER, ACCUSED, 0);
+        x.disc(0, 4, 1);
+        CHECK.due("convicted", x.close(0), 1);
+        court(x, "a fine told as 0", 3, 0, 1, 0, 1, 1, 1, 1, 0, 1, -1, 0);
+        CHECK.due("owes as before", x.about(ACCUSED, 4), 2000000000);
+        x.suit(0, 3, ACCUSED, ACCUSER, 10);
+        x.disc(0, 4, 0);
+        CHECK.due("acquitted", x.close(0), 0);
+        court(x, "a fifth told as 0", 3, 1, 0, 10, 1, 1, 1, 0, 0, 0, -1, 0);
+        CHECK.due("owes as before", x.about(ACCUSED, 4), 2000000000);
+        x.suit(0, 3, ACCUSER, 2, 0);
+        x.owe(4, 1, 0);
+        CHECK.due("a tie of none", x.close(0), 1);
+        court(x, "convicted by a tie", 3, 0, 2, 0, 1, 1, 0, 0, 1, 1, -1, 0);
+        Check.tell(x, "fifth 1;", 0);
+        x.suit(0, 3, ACCUSER, 2, 10);
+        x.disc(0, 4, 0);
+        x.close(0);
+        court(x, "a fifth told as 1", 3, 0, 2, 10, 10, 10, 1, 0, 0, 0, ACCUSER, 1);
     }
 
     /** The accuser owes with less than a fifth of the discs: one of five is a fifth, one of seven is less. */
@@ -305,7 +341,7 @@ public final class CourtsTest {
         y.suit(0, 0, ACCUSER, ACCUSED, 10);
         y.disc(0, 4, 0);
         y.close(0);
-        CHECK.due("the accuser owes by fifth 0", y.court(0, 13), ACCUSER);
+        CHECK.due("nobody owes by fifth 0", y.court(0, 13), -1);
         CHECK.due("nothing", y.court(0, 14), 0);
         CHECK.due("may sit", y.about(ACCUSER, 5), 1);
     }
