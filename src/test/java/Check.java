@@ -1,6 +1,15 @@
+import java.lang.reflect.InvocationTargetException;
+import java.lang.reflect.Method;
+import java.lang.reflect.Modifier;
+import java.util.Arrays;
+import java.util.Comparator;
+import java.util.List;
+
 /** Counts the answers that are not as due, and the small helpers that the tests share. */
 final class Check {
     private final String name;
+    private String test = "";
+    private String sentence = "";
     private int wrong;
     private int asked;
 
@@ -11,9 +20,72 @@ final class Check {
     void due(String call, long got, long want) {
         asked++;
         if (got != want) {
-            wrong++;
-            System.out.println(name + ": " + call + " answered " + got + ", due is " + want);
+            complain(call + " answered " + got + ", due is " + want);
         }
+    }
+
+    /** Both lists tell answers by their calls; only the first that is unlike is told. */
+    void same(String when, List<String> got, List<String> want) {
+        asked++;
+        int both = Math.min(got.size(), want.size());
+        for (int i = 0; i < both; i++) {
+            if (!got.get(i).equals(want.get(i))) {
+                complain(when + ": " + got.get(i) + ", due is " + want.get(i));
+                return;
+            }
+        }
+        if (got.size() != want.size()) {
+            complain(when + ": " + got.size() + " answers, due are " + want.size());
+        }
+    }
+
+    /** The words of the document that the test holds up; they are told with what fails. */
+    void sentence(String words) {
+        sentence = words;
+    }
+
+    /**
+     * Runs each test of a class by itself: every static method without parameters that is not private.
+     * One that is forgotten in a list of calls can't be, and one that asks nothing is a fault.
+     */
+    void runEach(Class<?> tests) {
+        Method[] methods = tests.getDeclaredMethods();
+        Arrays.sort(methods, Comparator.comparing(Method::getName));
+        for (Method method : methods) {
+            if (isTest(method)) {
+                runOne(method);
+            }
+        }
+        test = "";
+    }
+
+    private static boolean isTest(Method method) {
+        int modifiers = method.getModifiers();
+        return Modifier.isStatic(modifiers) && !Modifier.isPrivate(modifiers) && !method.isSynthetic()
+            && method.getParameterCount() == 0;
+    }
+
+    private void runOne(Method method) {
+        test = method.getName();
+        sentence = "";
+        int askedBefore = asked;
+        try {
+            method.invoke(null);
+        } catch (InvocationTargetException | IllegalAccessException e) {
+            complain("ended with " + (e.getCause() == null ? e : e.getCause()));
+        }
+        if (asked == askedBefore) {
+            complain("asks nothing");
+        }
+        if (sentence.isEmpty()) {
+            complain("names no sentence of the document");
+        }
+    }
+
+    private void complain(String what) {
+        wrong++;
+        String where = test.isEmpty() ? name : name + "." + test + " [" + sentence + "]";
+        System.out.println(where + ": " + what);
     }
 
     void end() {

@@ -1,10 +1,9 @@
 /** Promises 20 to 29: courts, lots, suits, discs, verdicts, and the counts of all. */
 public final class CourtsTest {
     private static final Check CHECK = new Check("CourtsTest");
-    // The parties come on the roll first and never come at dawn, so that the seats begin with 4.
-    private static final int ACCUSER = 0;
-    private static final int ACCUSED = 1;
-    private static final int FIRST_SEAT = 4;
+    private static final int ACCUSER = Courtroom.ACCUSER;
+    private static final int ACCUSED = Courtroom.ACCUSED;
+    private static final int FIRST_SEAT = Courtroom.FIRST_SEAT;
 
     public static void main(String[] args) {
         opening();
@@ -34,37 +33,6 @@ public final class CourtsTest {
         CHECK.end();
     }
 
-    private static LotMachine withChosen(int rows) {
-        LotMachine x = new LotMachine();
-        for (int i = 0; i < FIRST_SEAT; i++) {
-            Check.sworn(x, 9, i);
-        }
-        Check.rowsCome(x, 0, rows);
-        x.draw(0, rows, 0);
-        return x;
-    }
-
-    private static void fill(LotMachine x, int court, int size) {
-        x.open(court, size);
-        for (int i = 0; i < size; i++) {
-            x.lot(court);
-        }
-    }
-
-    /** Court 0 is full with citizens 4 and on. */
-    private static LotMachine withCourt(int size) {
-        LotMachine x = withChosen((size + 4) / 5);
-        fill(x, 0, size);
-        return x;
-    }
-
-    /** The first so many of those that sit convict, the rest acquit. */
-    private static void tellDiscs(LotMachine x, int size, int convicting) {
-        for (int i = 0; i < size; i++) {
-            x.disc(0, FIRST_SEAT + i, i < convicting ? 1 : 0);
-        }
-    }
-
     private static void court(LotMachine x, String when, int... fromThree) {
         for (int i = 0; i < fromThree.length; i++) {
             CHECK.due(when + ": court(0, " + (i + 3) + ")", x.court(0, i + 3), fromThree[i]);
@@ -90,7 +58,7 @@ public final class CourtsTest {
     }
 
     private static void lots() {
-        LotMachine x = withChosen(1);
+        LotMachine x = Courtroom.withChosen(1);
         CHECK.due("lot(-1)", x.lot(-1), -2);
         CHECK.due("lot(5)", x.lot(5), -2);
         CHECK.due("lot(1) of a shut one", x.lot(1), -4);
@@ -122,7 +90,7 @@ public final class CourtsTest {
     }
 
     private static void suitRange() {
-        LotMachine x = withCourt(3);
+        LotMachine x = Courtroom.withCourt(3);
         CHECK.due("court -1", x.suit(-1, 0, 0, 1, 0), -2);
         CHECK.due("court 5", x.suit(5, 0, 0, 1, 0), -2);
         CHECK.due("kind -1", x.suit(0, -1, 0, 1, 0), -2);
@@ -141,7 +109,7 @@ public final class CourtsTest {
     }
 
     private static void suitState() {
-        LotMachine x = withChosen(1);
+        LotMachine x = Courtroom.withChosen(1);
         CHECK.due("a shut court", x.suit(0, 0, 0, 1, 0), -4);
         x.open(0, 3);
         x.lot(0);
@@ -157,7 +125,7 @@ public final class CourtsTest {
     }
 
     private static void waterOfTheLaws() {
-        LotMachine x = withCourt(1);
+        LotMachine x = Courtroom.withCourt(1);
         Check.tell(x, "suit 2 water 7 over 100 water 2000 fine 0; suit 3 water 0 fine 0;", 0);
         Check.tell(x, "suit 2 water 1 fine 0;", 1);
         int[][] runs = {{2, 100, 7}, {2, 101, 2000}, {2, 0, 7}, {3, 1000000, 0}, {1, 1000000, 10}};
@@ -175,7 +143,7 @@ public final class CourtsTest {
     }
 
     private static void speaking() {
-        LotMachine x = withCourt(1);
+        LotMachine x = Courtroom.withCourt(1);
         CHECK.due("no suit", x.speak(0, 0, 1), -4);
         x.suit(0, 0, ACCUSER, ACCUSED, 0);
         CHECK.due("court -1", x.speak(-1, 0, 1), -2);
@@ -199,7 +167,7 @@ public final class CourtsTest {
     }
 
     private static void witnesses() {
-        LotMachine x = withCourt(3);
+        LotMachine x = Courtroom.withCourt(3);
         CHECK.due("witness(-1)", x.witness(-1), -2);
         CHECK.due("witness(5)", x.witness(5), -2);
         CHECK.due("no suit", x.witness(0), -4);
@@ -224,7 +192,7 @@ public final class CourtsTest {
     }
 
     private static void discs() {
-        LotMachine x = withCourt(3);
+        LotMachine x = Courtroom.withCourt(3);
         CHECK.due("no suit", x.disc(0, 4, 1), -4);
         x.suit(0, 0, ACCUSER, ACCUSED, 0);
         CHECK.due("court -1", x.disc(-1, 4, 1), -2);
@@ -244,13 +212,13 @@ public final class CourtsTest {
     }
 
     private static void closing() {
-        LotMachine x = withCourt(3);
+        LotMachine x = Courtroom.withCourt(3);
         CHECK.due("close(-1)", x.close(-1), -2);
         CHECK.due("close(5)", x.close(5), -2);
         CHECK.due("none is open", x.close(0), -4);
         x.suit(0, 0, ACCUSER, ACCUSED, 10);
         CHECK.due("all are wanting", x.close(0), -4);
-        tellDiscs(x, 2, 2);
+        Courtroom.tellDiscs(x, 2, 2);
         CHECK.due("one is wanting", x.close(0), -4);
         x.disc(0, 6, 0);
         CHECK.due("close", x.close(0), 1);
@@ -265,7 +233,7 @@ public final class CourtsTest {
     }
 
     private static void convictedOwes() {
-        LotMachine x = withCourt(1);
+        LotMachine x = Courtroom.withCourt(1);
         Check.tell(x, "suit 3 water 1 fine 70; pay 0;", 0);
         x.suit(0, 3, ACCUSER, ACCUSED, 1000);
         x.disc(0, 4, 1);
@@ -292,7 +260,7 @@ public final class CourtsTest {
 
     /** A verdict by which 0 is owed names nobody, of whatever it was made, and is never too much. */
     private static void nobodyOwesNothing() {
-        LotMachine x = withCourt(1);
+        LotMachine x = Courtroom.withCourt(1);
         Check.tell(x, "suit 3 water 1 fine 0; fifth 0; tie convict;", 0);
         x.owe(ACCUSED, 1000000000, 0);
         x.owe(ACCUSED, 1000000000, 0);
@@ -321,9 +289,9 @@ public final class CourtsTest {
     private static void fifths() {
         int[][] runs = {{5, 0, 1}, {5, 1, 0}, {7, 1, 1}, {7, 2, 0}, {25, 4, 1}, {25, 5, 0}, {25, 12, 0}, {1, 0, 1}};
         for (int[] run : runs) {
-            LotMachine x = withCourt(run[0]);
+            LotMachine x = Courtroom.withCourt(run[0]);
             x.suit(0, 0, ACCUSER, ACCUSED, 10);
-            tellDiscs(x, run[0], run[1]);
+            Courtroom.tellDiscs(x, run[0], run[1]);
             String of = run[1] + " of " + run[0];
             CHECK.due(of, x.close(0), 0);
             CHECK.due(of + ": verdict", x.court(0, 12), 0);
@@ -332,11 +300,11 @@ public final class CourtsTest {
             CHECK.due(of + ": accuser owes", x.about(ACCUSER, 4), run[2] * 1000);
             CHECK.due(of + ": accused owes", x.about(ACCUSED, 4), 0);
         }
-        LotMachine x = withCourt(25);
+        LotMachine x = Courtroom.withCourt(25);
         x.suit(0, 0, ACCUSER, ACCUSED, 10);
-        tellDiscs(x, 25, 13);
+        Courtroom.tellDiscs(x, 25, 13);
         CHECK.due("13 of 25", x.close(0), 1);
-        LotMachine y = withCourt(1);
+        LotMachine y = Courtroom.withCourt(1);
         Check.tell(y, "fifth 0;", 0);
         y.suit(0, 0, ACCUSER, ACCUSED, 10);
         y.disc(0, 4, 0);
@@ -347,7 +315,7 @@ public final class CourtsTest {
     }
 
     private static void struckOut() {
-        LotMachine x = withCourt(5);
+        LotMachine x = Courtroom.withCourt(5);
         x.suit(0, 0, ACCUSER, ACCUSED, 10);
         CHECK.due("owe", x.owe(4, 5, 0), 5);
         CHECK.due("struck out", x.court(0, 11), 1);
@@ -378,7 +346,7 @@ public final class CourtsTest {
             y.come(i);
         }
         y.draw(0, 1, 0);
-        fill(y, 0, 5);
+        Courtroom.fill(y, 0, 5);
         y.suit(0, 0, accuser, accused, 0);
         y.owe(0, 1, 9);
         y.owe(1, 1, 8);
@@ -387,9 +355,9 @@ public final class CourtsTest {
     }
 
     private static void struckOutBehindItsDisc() {
-        LotMachine x = withCourt(3);
+        LotMachine x = Courtroom.withCourt(3);
         x.suit(0, 0, ACCUSER, ACCUSED, 10);
-        tellDiscs(x, 3, 2);
+        Courtroom.tellDiscs(x, 3, 2);
         CHECK.due("two of three", x.court(0, 10), 2);
         x.owe(4, 1, 0);
         CHECK.due("count", x.court(0, 9), 2);
@@ -402,21 +370,21 @@ public final class CourtsTest {
     }
 
     private static void ties() {
-        LotMachine x = withCourt(3);
+        LotMachine x = Courtroom.withCourt(3);
         Check.tell(x, "tie convict;", 0);
         x.suit(0, 0, ACCUSER, ACCUSED, 10);
-        tellDiscs(x, 3, 2);
+        Courtroom.tellDiscs(x, 3, 2);
         x.owe(4, 1, 0);
         CHECK.due("a tie convicts", x.close(0), 1);
         CHECK.due("the accused owes", x.about(ACCUSED, 4), 10);
         x.suit(0, 0, ACCUSER, ACCUSED, 10);
-        tellDiscs(x, 3, 1);
+        Courtroom.tellDiscs(x, 3, 1);
         CHECK.due("less than half acquits", x.close(0), 0);
     }
 
     private static void allStruckOut() {
         for (int tie = 0; tie <= 1; tie++) {
-            LotMachine x = withCourt(1);
+            LotMachine x = Courtroom.withCourt(1);
             Check.tell(x, tie == 1 ? "tie convict;" : "tie acquit;", 0);
             x.suit(0, 0, ACCUSER, ACCUSED, 10);
             x.witness(0);
@@ -434,9 +402,9 @@ public final class CourtsTest {
     }
 
     private static void struckOutByAnotherVerdict() {
-        LotMachine x = withChosen(1);
-        fill(x, 0, 1);
-        fill(x, 1, 3);
+        LotMachine x = Courtroom.withChosen(1);
+        Courtroom.fill(x, 0, 1);
+        Courtroom.fill(x, 1, 3);
         x.suit(1, 0, ACCUSER, ACCUSED, 0);
         x.suit(0, 0, ACCUSER, 5, 0);
         x.disc(0, 4, 1);
@@ -455,7 +423,7 @@ public final class CourtsTest {
     }
 
     private static void debtOutsideAnOpenSuit() {
-        LotMachine x = withCourt(3);
+        LotMachine x = Courtroom.withCourt(3);
         x.owe(4, 1, 0);
         x.suit(0, 0, ACCUSER, ACCUSED, 0);
         CHECK.due("told ahead of the suit", x.court(0, 11), 0);
@@ -472,7 +440,7 @@ public final class CourtsTest {
     }
 
     private static void fullDebt() {
-        LotMachine x = withCourt(1);
+        LotMachine x = Courtroom.withCourt(1);
         x.suit(0, 0, ACCUSER, ACCUSED, 10);
         x.disc(0, 4, 1);
         x.owe(ACCUSED, 1000000000, 0);
@@ -495,7 +463,7 @@ public final class CourtsTest {
     }
 
     private static void lawsAtTheClose() {
-        LotMachine x = withCourt(1);
+        LotMachine x = Courtroom.withCourt(1);
         Check.tell(x, "suit 0 water 5 fine 1; pay 1;", 0);
         x.suit(0, 0, ACCUSER, ACCUSED, 0);
         x.disc(0, 4, 1);
@@ -507,7 +475,7 @@ public final class CourtsTest {
     }
 
     private static void aSecondSuit() {
-        LotMachine x = withCourt(1);
+        LotMachine x = Courtroom.withCourt(1);
         x.suit(0, 1, ACCUSER, ACCUSED, 10);
         x.speak(0, 0, 3);
         x.disc(0, 4, 1);
@@ -524,7 +492,7 @@ public final class CourtsTest {
     }
 
     private static void suitsGoneWithTheDay() {
-        LotMachine x = withCourt(1);
+        LotMachine x = Courtroom.withCourt(1);
         x.suit(0, 1, ACCUSER, ACCUSED, 10);
         x.disc(0, 4, 1);
         x.now(1);
@@ -539,7 +507,7 @@ public final class CourtsTest {
             x.come(c);
         }
         x.draw(0, 1, 0);
-        fill(x, 0, 1);
+        Courtroom.fill(x, 0, 1);
         court(x, "without one today", -1, -1, -1, -1, -1, -1, -1, -1, -1, -1, -1, -1);
         x.suit(0, 1, ACCUSER, ACCUSED, 10);
         CHECK.due("its disc today", x.disc(0, 4, 0), 0);
@@ -551,10 +519,10 @@ public final class CourtsTest {
     }
 
     private static void payInAll() {
-        LotMachine x = withChosen(2);
+        LotMachine x = Courtroom.withChosen(2);
         Check.tell(x, "pay 99999;", 0);
-        fill(x, 2, 3);
-        fill(x, 4, 5);
+        Courtroom.fill(x, 2, 3);
+        Courtroom.fill(x, 4, 5);
         x.suit(2, 0, ACCUSER, ACCUSED, 0);
         x.suit(4, 0, ACCUSER, ACCUSED, 0);
         for (int c = 4; c < 12; c++) {
@@ -571,7 +539,7 @@ public final class CourtsTest {
     }
 
     private static void countsAndUnknowns() {
-        LotMachine x = withCourt(3);
+        LotMachine x = Courtroom.withCourt(3);
         Check.write(x, "age");
         int[] want = {9, 0, 5, 5, 3, 0, 3, 0, 0};
         for (int what = 0; what < want.length; what++) {
