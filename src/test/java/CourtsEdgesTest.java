@@ -19,7 +19,7 @@ public final class CourtsEdgesTest {
         x.owe(c, 1000000000, 0);
     }
 
-    /** A suit of all discs told, of which so many are struck out later: first convicting ones, then acquitting ones. */
+    /** A suit of all discs told, of which so many that convict and so many that acquit are struck out later. */
     private static LotMachine judged(String laws, int size, int convicting, int struckConvicting, int struckAcquitting) {
         LotMachine x = Courtroom.withCourt(size);
         Check.tell(x, laws, 0);
@@ -257,7 +257,8 @@ public final class CourtsEdgesTest {
     }
 
     static void suitRangeAheadOfState() {
-        CHECK.sentence("RANGE: no such COURT, kind, CITIZENS (unlike, who don't sit there), sum; STATE: the COURT isn't full");
+        CHECK.sentence("RANGE: no such COURT, kind, CITIZENS (unlike, who don't sit there), sum; STATE: the COURT "
+            + "isn't full");
         BusyDay.refuses(CHECK, "kind 6 of a shut court", x -> x.suit(4, 6, 10, 11, 0), -2);
         BusyDay.refuses(CHECK, "one that sits, in a court not full", x -> x.suit(3, 0, 5, 11, 0), -2);
         BusyDay.refuses(CHECK, "sum -1 with one that is open", x -> x.suit(0, 0, 10, 11, -1), -2);
@@ -324,7 +325,8 @@ public final class CourtsEdgesTest {
     }
 
     static void speakNoSuitIsOpen() {
-        CHECK.sentence("STATE: no SUIT is open, it is not its turn, a WITNESS is heard, a DISC was told, or it has less.");
+        CHECK.sentence("STATE: no SUIT is open, it is not its turn, a WITNESS is heard, a DISC was told, or it has "
+            + "less.");
         BusyDay.refuses(CHECK, "its suit is closed", x -> x.speak(2, 0, 1), -4);
         BusyDay.refuses(CHECK, "it had none", x -> x.speak(3, 0, 1), -4);
         BusyDay.refuses(CHECK, "it is shut", x -> x.speak(4, 0, 1), -4);
@@ -481,14 +483,16 @@ public final class CourtsEdgesTest {
     }
 
     static void discNoSuitIsOpen() {
-        CHECK.sentence("STATE: no SUIT is open, it doesn't sit there, it has told one, is STRUCK OUT, or a WITNESS is heard.");
+        CHECK.sentence("STATE: no SUIT is open, it doesn't sit there, it has told one, is STRUCK OUT, or a WITNESS "
+            + "is heard.");
         BusyDay.refuses(CHECK, "its suit is closed", x -> x.disc(2, 4, 1), -4);
         BusyDay.refuses(CHECK, "it had none", x -> x.disc(3, 5, 1), -4);
         BusyDay.refuses(CHECK, "it is shut", x -> x.disc(4, 5, 1), -4);
     }
 
     static void discItDoesntSitThere() {
-        CHECK.sentence("STATE: no SUIT is open, it doesn't sit there, it has told one, is STRUCK OUT, or a WITNESS is heard.");
+        CHECK.sentence("STATE: no SUIT is open, it doesn't sit there, it has told one, is STRUCK OUT, or a WITNESS "
+            + "is heard.");
         for (int c : new int[] {3, 9, BusyDay.ACCUSER, BusyDay.ACCUSED, BusyDay.CITIZENS, -1, 150, MIN, MAX}) {
             BusyDay.refuses(CHECK, "citizen " + c, x -> x.disc(0, c, 1), -4);
         }
@@ -502,12 +506,14 @@ public final class CourtsEdgesTest {
     }
 
     static void discOfOneStruckOut() {
-        CHECK.sentence("STATE: no SUIT is open, it doesn't sit there, it has told one, is STRUCK OUT, or a WITNESS is heard.");
+        CHECK.sentence("STATE: no SUIT is open, it doesn't sit there, it has told one, is STRUCK OUT, or a WITNESS "
+            + "is heard.");
         BusyDay.refusesBehind(CHECK, x -> x.owe(2, 1, 0), "struck out", x -> x.disc(0, 2, 1), -4);
     }
 
     static void discWhileAWitnessIsHeard() {
-        CHECK.sentence("STATE: no SUIT is open, it doesn't sit there, it has told one, is STRUCK OUT, or a WITNESS is heard.");
+        CHECK.sentence("STATE: no SUIT is open, it doesn't sit there, it has told one, is STRUCK OUT, or a WITNESS "
+            + "is heard.");
         BusyDay.refusesBehind(CHECK, x -> x.witness(0), "a witness is heard", x -> x.disc(0, 1, 1), -4);
         LotMachine x = BusyDay.begin();
         x.witness(0);
@@ -666,7 +672,8 @@ public final class CourtsEdgesTest {
     }
 
     static void closeFifths() {
-        CHECK.sentence("else the accuser owes what fifth tells, if the DISCS that convict, five times, are below all that count.");
+        CHECK.sentence("else the accuser owes what fifth tells, if the DISCS that convict, five times, are below all "
+            + "that count.");
         int[][] runs = {{1, 0, 1}, {3, 0, 1}, {3, 1, 0}, {5, 0, 1}, {5, 1, 0}, {7, 1, 1}, {7, 2, 0}, {25, 4, 1},
             {25, 5, 0}, {25, 6, 0}};
         for (int[] run : runs) {
@@ -681,7 +688,8 @@ public final class CourtsEdgesTest {
     }
 
     static void closeFifthsOfAllThatCount() {
-        CHECK.sentence("else the accuser owes what fifth tells, if the DISCS that convict, five times, are below all that count.");
+        CHECK.sentence("else the accuser owes what fifth tells, if the DISCS that convict, five times, are below all "
+            + "that count.");
         int[][] runs = {{7, 1, 0, 1, 1}, {7, 1, 0, 2, 0}, {7, 2, 1, 0, 1}, {11, 2, 0, 1, 0}, {11, 2, 0, 0, 1},
             {3, 1, 1, 2, 0}};
         for (int[] run : runs) {
@@ -929,7 +937,8 @@ public final class CourtsEdgesTest {
     }
 
     static void countEach() {
-        CHECK.sentence("What 0: CITIZENS, 1: the CLOCK's day, 2: those that came today, 3: CHOSEN, 4: those with a LOT, 5: texts of laws, 6: bytes of THE TAPE, 7: SUITS CLOSED in all, 8: PAY in all.");
+        CHECK.sentence("What 0: CITIZENS, 1: the CLOCK's day, 2: those that came today, 3: CHOSEN, 4: those with a "
+            + "LOT, 5: texts of laws, 6: bytes of THE TAPE, 7: SUITS CLOSED in all, 8: PAY in all.");
         LotMachine x = BusyDay.begin();
         int[] today = {15, 3, 11, 10, 6, 1, 3, 1, 4};
         int[] tomorrow = {15, 4, 0, 0, 0, 1, 3, 1, 4};

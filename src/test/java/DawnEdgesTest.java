@@ -116,8 +116,22 @@ public final class DawnEdgesTest {
         CHECK.due("pay in all", x.count(8), 4);
     }
 
+    static void nowBehindAFullDawn() {
+        CHECK.sentence("(nobody has come, COURTS are shut, SUITS that are open are gone)");
+        LotMachine x = withRows(30);
+        CHECK.due("draw", x.draw(TRIBE, 30, 0), 150);
+        CHECK.due("now(1)", x.now(1), 1);
+        CHECK.due("came", x.count(2), 0);
+        CHECK.due("chosen", x.count(3), 0);
+        CHECK.due("place of 0", x.about(0, 6), -1);
+        CHECK.due("place of 149", x.about(149, 6), -1);
+        CHECK.due("149 chosen", x.about(149, 7), 0);
+        CHECK.due("come(149)", x.come(149), 1);
+    }
+
     static void nowLeavesTheRestAsItIs() {
-        CHECK.sentence("The CLOCK goes on to a later day: it (nobody has come, COURTS are shut, SUITS that are open are gone)");
+        CHECK.sentence("The CLOCK goes on to a later day: it (nobody has come, COURTS are shut, SUITS that are open "
+            + "are gone)");
         LotMachine x = BusyDay.begin();
         x.now(20000);
         CHECK.due("citizens", x.count(0), BusyDay.CITIZENS);

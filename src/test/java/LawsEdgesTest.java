@@ -356,7 +356,8 @@ public final class LawsEdgesTest {
     // ---- promise 5: fault
 
     static void faultWithoutAnyLaws() {
-        CHECK.sentence("Of the latest laws() that was not RANGE, what 0: its FAULT's KIND, 0 without, 1: its PLACE (NONE).");
+        CHECK.sentence("Of the latest laws() that was not RANGE, what 0: its FAULT's KIND, 0 without, 1: its PLACE "
+            + "(NONE).");
         LotMachine x = new LotMachine();
         CHECK.due("fault(0)", x.fault(0), 0);
         CHECK.due("fault(1)", x.fault(1), -1);
@@ -642,13 +643,55 @@ public final class LawsEdgesTest {
     static void lineWithAnotherTokenAtEachPlace() {
         CHECK.sentence("1 SYNTAX: a TOKEN (or byte that is none, a NUMBER of six digits) with which no text goes on.");
         String[] tokens = {"suit", "3", "water", "1", "over", "2", "water", "4", "fine", "5", ";"};
-        String[] others = {"convict", "acquit", "?", "123456", "waters", "fin"};
+        String[] others = {"convict", "acquit", "?", "123456", "waters", "fin", ";"};
         StringBuilder text = new StringBuilder();
         for (String token : tokens) {
             for (String other : others) {
-                faulty(text + other + " ;", 1, text.length());
+                if (!other.equals(token)) {
+                    faulty(text + other + " ;", 1, text.length());
+                }
             }
             text.append(token).append(' ');
+        }
+    }
+
+    static void lineWithATokenLeftOut() {
+        CHECK.sentence("1 SYNTAX: a TOKEN (or byte that is none, a NUMBER of six digits) with which no text goes on.");
+        String[] tokens = {"suit", "3", "water", "1", "over", "2", "water", "4", "fine", "5", ";"};
+        for (int left = 0; left < tokens.length; left++) {
+            StringBuilder text = new StringBuilder();
+            int place = 0;
+            for (int i = 0; i < tokens.length; i++) {
+                if (i == left) {
+                    place = text.length();
+                } else {
+                    text.append(tokens[i]).append(' ');
+                }
+            }
+            // Without "over" it is its number that can't go on, without ";" the end.
+            faulty(text.toString(), 1, place);
+        }
+    }
+
+    static void lineWithALetterChanged() {
+        CHECK.sentence("1 SYNTAX: a TOKEN (or byte that is none, a NUMBER of six digits) with which no text goes on.");
+        String acquit = "age 1; pay 2; fifth 3; tie acquit; suit 4 water 5 over 6 water 7 fine 8;";
+        for (String text : new String[] {acquit, acquit.replace("acquit", "convict")}) {
+            sound(text);
+            int word = 0;
+            for (int i = 0; i < text.length(); i++) {
+                char letter = text.charAt(i);
+                boolean inWord = letter >= 'a' && letter <= 'z';
+                if (inWord && (i == 0 || text.charAt(i - 1) == ' ')) {
+                    word = i;
+                }
+                if (inWord) {
+                    char other = letter == 'z' ? 'a' : (char) (letter + 1);
+                    faulty(text.substring(0, i) + other + text.substring(i + 1), 1, word);
+                    faulty(text.substring(0, i) + letter + text.substring(i), 1, word);
+                    faulty(text.substring(0, i) + text.substring(i + 1), 1, word);
+                }
+            }
         }
     }
 
@@ -680,6 +723,8 @@ public final class LawsEdgesTest {
         faulty("age \n ", 1, 6);
         faulty("age 5" + blanks(995), 1, 1000);
         faulty(blanks(997) + "age", 1, 1000);
+        faulty(blanks(995) + "age 5", 1, 1000);
+        faulty(blanks(991) + "age 12345", 1, 1000);
         LotMachine x = new LotMachine();
         Check.write(x, "age 5 ;");
         x.end(6);
@@ -808,13 +853,15 @@ public final class LawsEdgesTest {
     }
 
     static void inForceWithoutAny() {
-        CHECK.sentence("without any, and where it doesn't tell: age 10950, pay 3, fifth 1000, ties acquit, suits with water 10 and fine 0.");
+        CHECK.sentence("without any, and where it doesn't tell: age 10950, pay 3, fifth 1000, ties acquit, suits "
+            + "with water 10 and fine 0.");
         plainLaws(new LotMachine(), 0, -1);
         plainLaws(new LotMachine(), 20000, -1);
     }
 
     static void inForceWhereItDoesntTell() {
-        CHECK.sentence("without any, and where it doesn't tell: age 10950, pay 3, fifth 1000, ties acquit, suits with water 10 and fine 0.");
+        CHECK.sentence("without any, and where it doesn't tell: age 10950, pay 3, fifth 1000, ties acquit, suits "
+            + "with water 10 and fine 0.");
         LotMachine x = sound("age 1; pay 2; fifth 3; tie convict; suit 0 water 4 over 5 water 6 fine 7;");
         Check.tell(x, "", 1);
         plainLaws(x, 1, 1);

@@ -337,7 +337,8 @@ public final class RollEdgesTest {
     }
 
     static void aboutOneThatIsNew() {
-        CHECK.sentence("6: its place in its column today (NONE), 7: 1 if it is CHOSEN today, 8: the COURT to which its LOT sent it today (NONE), 9: PAY in all.");
+        CHECK.sentence("6: its place in its column today (NONE), 7: 1 if it is CHOSEN today, 8: the COURT to which "
+            + "its LOT sent it today (NONE), 9: PAY in all.");
         LotMachine x = new LotMachine();
         x.citizen(9, 4, -40000);
         int[] want = {9, 4, -40000, 0, 0, 0, -1, 0, -1, 0};
@@ -347,7 +348,8 @@ public final class RollEdgesTest {
     }
 
     static void aboutTodayAlone() {
-        CHECK.sentence("6: its place in its column today (NONE), 7: 1 if it is CHOSEN today, 8: the COURT to which its LOT sent it today (NONE), 9: PAY in all.");
+        CHECK.sentence("6: its place in its column today (NONE), 7: 1 if it is CHOSEN today, 8: the COURT to which "
+            + "its LOT sent it today (NONE), 9: PAY in all.");
         LotMachine x = BusyDay.begin();
         int[] today = {0, 4, -11000, 1, 0, 1, 0, 1, 2, 4};
         int[] tomorrow = {0, 4, -11000, 1, 0, 1, -1, 0, -1, 4};
