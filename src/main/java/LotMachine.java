@@ -179,7 +179,10 @@ public final class LotMachine {
         clock = day;
         dawn.clear();
         for (int i = 0; i < COURTS; i++) {
-            courts[i].shut();
+            Court room = courtAt(i);
+            if (room != null) {
+                room.shut();
+            }
         }
         return day;
     }
@@ -189,7 +192,7 @@ public final class LotMachine {
         if (citizen == null) {
             return RANGE;
         }
-        if (!maySit(citizen) || citizen.place != NONE || dawn.drawn[citizen.tribe]) {
+        if (!maySit(citizen) || citizen.place != NONE || dawn.hasDrawn(citizen.tribe)) {
             return STATE;
         }
         return dawn.admit(citizen);
@@ -214,7 +217,7 @@ public final class LotMachine {
         if (number < 0 || number >= waysToChoose(dawn.rowsOf(tribe), w)) {
             return RANGE;
         }
-        if (dawn.drawn[tribe]) {
+        if (dawn.hasDrawn(tribe)) {
             return STATE;
         }
         return dawn.chooseRows(tribe, w, number);
@@ -341,7 +344,7 @@ public final class LotMachine {
         }
         suit.open = false;
         suitsClosed++;
-        payDiscs(room, laws.values[LawText.PAY]);
+        payDiscs(room, laws.answer(LawText.PAY));
         if (debtor != null) {
             addDebt(debtor, suit.debt);
         }
@@ -395,7 +398,7 @@ public final class LotMachine {
     }
 
     private boolean maySit(Citizen citizen) {
-        int age = book.inForce(clock).values[LawText.AGE];
+        int age = book.inForce(clock).answer(LawText.AGE);
         return citizen.sworn && citizen.owed == 0 && clock - citizen.born >= age;
     }
 
@@ -512,6 +515,12 @@ public final class LotMachine {
             return what >= 0 && what < values.length ? values[what] : NO_LAW;
         }
 
+        void tell(int what, int value) {
+            if (what >= 0 && what < values.length) {
+                values[what] = value;
+            }
+        }
+
         int waterOf(int kind, int sum) {
             int over = answer(OVER + kind);
             return over != NONE && sum > over ? answer(BEYOND + kind) : answer(WATER + kind);
@@ -532,7 +541,7 @@ public final class LotMachine {
             LawText text = new LawText();
             text.copy(draft);
             text.firstDay = day;
-            text.values[LawText.TEXT] = size;
+            text.tell(LawText.TEXT, size);
             texts[size] = text;
             size++;
             return size - 1;
@@ -629,7 +638,7 @@ public final class LotMachine {
             if (!takeWord("water") || !takeNumber(LawText.WATER + kind)) {
                 return false;
             }
-            draft.values[LawText.BEYOND + kind] = draft.values[LawText.WATER + kind];
+            draft.tell(LawText.BEYOND + kind, draft.answer(LawText.WATER + kind));
             if (isWord("over")) {
                 advance();
                 if (!takeNumber(LawText.OVER + kind) || !takeWord("water") || !takeNumber(LawText.BEYOND + kind)) {
@@ -656,7 +665,7 @@ public final class LotMachine {
         }
 
         private boolean takeFirstWord(int what) {
-            if (told[what]) {
+            if (what < 0 || what >= told.length || told[what]) {
                 return fail(TWICE);
             }
             told[what] = true;
@@ -669,7 +678,7 @@ public final class LotMachine {
             if (!convict && !isWord("acquit")) {
                 return fail(SYNTAX);
             }
-            draft.values[LawText.TIE] = convict ? 1 : 0;
+            draft.tell(LawText.TIE, convict ? 1 : 0);
             advance();
             return true;
         }
@@ -686,7 +695,7 @@ public final class LotMachine {
             if (token != NUMBER) {
                 return fail(SYNTAX);
             }
-            draft.values[what] = number;
+            draft.tell(what, number);
             advance();
             return true;
         }
@@ -806,7 +815,7 @@ public final class LotMachine {
 
         int admit(Citizen citizen) {
             int column = citizen.tribe * LETTERS + citizen.letter;
-            if (arrivals >= MOST_CITIZENS) {
+            if (arrivals >= MOST_CITIZENS || column < 0 || column >= columns.length) {
                 return STATE;
             }
             came[arrivals] = citizen;
@@ -816,7 +825,14 @@ public final class LotMachine {
             return columns[column];
         }
 
+        boolean hasDrawn(int tribe) {
+            return isTribe(tribe) && drawn[tribe];
+        }
+
         int rowsOf(int tribe) {
+            if (!isTribe(tribe)) {
+                return 0;
+            }
             int shortest = MOST_CITIZENS;
             for (int letter = 0; letter < LETTERS; letter++) {
                 shortest = Math.min(shortest, columns[tribe * LETTERS + letter]);
@@ -826,6 +842,9 @@ public final class LotMachine {
 
         // The ways that begin with a row stand ahead of those that begin with a later one.
         int chooseRows(int tribe, int w, long number) {
+            if (!isTribe(tribe)) {
+                return RANGE;
+            }
             int rows = rowsOf(tribe);
             int wanted = w;
             long left = number;
@@ -888,7 +907,7 @@ public final class LotMachine {
             long sum = 0;
             for (int k = 0; k <= bribedRows; k++) {
                 long others = waysToChoose(rows - bribedRows, w - k);
-                for (int s = m; s <= MOST_BRIBED && others > 0; s++) {
+                for (int s = Math.max(m, 0); s <= MOST_BRIBED && others > 0; s++) {
                     sum += ways[k][s] * others;
                 }
             }
@@ -913,7 +932,7 @@ public final class LotMachine {
 
         // From the highest k down, so that no choice takes the new row twice.
         private void addRow(int rowsBefore, int bribed) {
-            for (int k = rowsBefore; k >= 0; k--) {
+            for (int k = Math.min(rowsBefore, TOLD_ROWS - 1); k >= 0; k--) {
                 for (int s = 0; s + bribed <= MOST_BRIBED; s++) {
                     ways[k + 1][s + bribed] += ways[k][s];
                 }
@@ -1014,10 +1033,10 @@ public final class LotMachine {
         }
 
         int hearWords(int side, int minutes) {
-            if (!open || witnessHeard || discTold || minutes > water[side]) {
+            if (!open || witnessHeard || discTold || side == 1 && !accuserSpoke) {
                 return STATE;
             }
-            if (side == 1 && !accuserSpoke) {
+            if (side < 0 || side >= water.length || minutes > water[side]) {
                 return STATE;
             }
             accuserSpoke = true;
